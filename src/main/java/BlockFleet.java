@@ -837,6 +837,7 @@ public final class BlockFleet {
         }
 
         Copy takePlace(Piece piece) {
+            // A place that is free is of no piece.
             Copy free = copyOf(null);
             if (free != null) {
                 free.begin(piece);

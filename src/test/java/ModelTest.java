@@ -5,6 +5,7 @@ import java.util.List;
 public final class ModelTest {
     private static final int RUNS = 6000;
     private static final int CALLS = 512;
+    private static final int CALM = 4;
 
     private long row;
     private final BlockFleet fleet = new BlockFleet();
@@ -66,10 +67,10 @@ public final class ModelTest {
     }
 
     private void setUp(int style) {
-        int many = 1 + any(8);
+        int many = style == CALM ? 8 : 1 + any(8);
         for (int i = 0; i < many; i++) {
             int rack = any(style == 0 ? 2 : 4);
-            int room = 1 + any(style == 1 ? 4 : 12);
+            int room = style == CALM ? 12 : 1 + any(style == 1 ? 4 : 12);
             same("node " + rack + " " + room, () -> fleet.node(rack, room), () -> model.node(rack, room));
         }
         for (int i = 0; i < 2; i++) {
@@ -78,7 +79,8 @@ public final class ModelTest {
     }
 
     private void change(int style) {
-        int kind = any(100);
+        // The calm runs write more, and so make more pieces.
+        int kind = style == CALM && any(2) == 0 ? any(42) : any(100);
         if (kind < 30) {
             int f = file();
             int number = any(60) == 0 ? (any(2) == 0 ? -1 : 1000) : any(1000);
@@ -86,18 +88,18 @@ public final class ModelTest {
         } else if (kind < 42) {
             int f = file();
             int p = place(f);
-            int c = mostly(4);
+            int c = any(2) == 0 ? mostly(4) : 0;
             int number = any(60) == 0 ? (any(2) == 0 ? -1 : 1000) : any(1000);
             same("put " + f + " " + p + " " + c + " " + number,
                 () -> fleet.put(f, p, c, number), () -> model.put(f, p, c, number));
         } else if (kind < 58) {
             int n = node();
-            boolean is = any(style == 2 ? 3 : 2) != 0;
+            boolean is = any(style == CALM ? 9 : 2 + style % 2) != 0;
             same("up " + n + " " + is, () -> fleet.up(n, is), () -> model.up(n, is));
         } else if (kind < 70) {
             spoil();
         } else if (kind < 82) {
-            int seconds = any(30) == 0 ? mostly(101) : 1 + any(style == 3 ? 12 : 4);
+            int seconds = any(30) == 0 ? mostly(101) : 1 + any(style == 3 ? 12 : style == CALM ? 22 : 4);
             same("pass " + seconds, () -> fleet.pass(seconds), () -> model.pass(seconds));
         } else {
             changeFilesOrSettings(kind - 82);

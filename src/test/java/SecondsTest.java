@@ -8,12 +8,15 @@ public final class SecondsTest {
         copiesComeBack();
         copiesComeBackOneBehindTheOther();
         goneFilesAreDroppedLate();
+        gonePiecesAreLeftAlone();
         scrubbing();
         mendingByNeed();
         mendingUnderTheLimit();
         mendingFromASoundCopy();
         mendingPlaces();
+        placesBeforeASecondIsSeen();
         balancing();
+        balancingTakesTheLowestThatCanMove();
         balancingNeedsRoom();
         due.end();
     }
@@ -132,6 +135,27 @@ public final class SecondsTest {
         due.is(0, "a gone piece is not mended", () -> y.load(3));
     }
 
+    private static void gonePiecesAreLeftAlone() {
+        BlockFleet x = fleet(0, 6, 1, 6, 2, 6, 3, 6);
+        x.limit(0);
+        x.append(0, 1);
+        x.spoil(2, 0, 0);
+        x.read(0, 0, 0, 2);
+        x.remove(0);
+        x.pass(19);
+        x.limit(3);
+        x.pass(1);
+        copies(x, 0, 0, 1);
+        BlockFleet y = fleet(0, 6, 1, 6, 2, 6);
+        fill(y, 0, 8);
+        y.node(3, 6);
+        y.remove(0);
+        y.pass(19);
+        y.balance(true);
+        y.pass(1);
+        due.is(0, "load(3), to which nothing gone moves", () -> y.load(3));
+    }
+
     private static void scrubbing() {
         BlockFleet x = fleet(0, 12, 1, 12, 2, 12);
         x.limit(0);
@@ -150,7 +174,9 @@ public final class SecondsTest {
         due.is(0, "load after the piece 0 again", () -> x.load(0));
         due.is(-1, "its primary", () -> x.piece(0, 3));
         due.is(3, "load elsewhere", () -> x.load(1));
-        x.spoil(1, 0, 0);
+        for (int piece = 0; piece < 3; piece++) {
+            x.spoil(1, piece, 0);
+        }
         x.up(1, false);
         x.pass(2);
         due.is(3, "load of one that is down", () -> x.load(1));
@@ -229,6 +255,36 @@ public final class SecondsTest {
         x.pass(3);
         due.is(true, "the full node gets none: the rack 1 has one, the rack 0, too", () -> x.copyAt(0, 2) == 3);
         copies(x, 0, 0, 1, 3);
+    }
+
+    private static void placesBeforeASecondIsSeen() {
+        BlockFleet x = fleet(0, 6, 1, 6);
+        x.up(0, false);
+        x.pass(3);
+        x.up(0, true);
+        x.append(0, 1);
+        copies(x, 0, 1);
+        x.pass(1);
+        copies(x, 0, 1, 0);
+    }
+
+    private static void balancingTakesTheLowestThatCanMove() {
+        BlockFleet x = fleet(0, 6, 1, 6, 2, 6);
+        x.limit(0);
+        x.balance(true);
+        x.append(0, 1);
+        x.up(2, false);
+        x.append(x.file(), 2);
+        x.up(2, true);
+        x.pass(1);
+        due.is(1, "load(2), one fewer", () -> x.load(2));
+        x.up(2, false);
+        x.append(x.file(), 3);
+        x.up(2, true);
+        x.pass(1);
+        copies(x, 0, 0, 1, 2);
+        copies(x, 1, 2, 1);
+        copies(x, 2, 0, 1);
     }
 
     private static void balancing() {

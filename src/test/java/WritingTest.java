@@ -9,6 +9,7 @@ public final class WritingTest {
         promise12FailedCopy();
         promise12Lease();
         promise12PrimaryDown();
+        promise12ShorterPrimary();
         promise12NothingBetween();
         promise12NewPieceLeavesTheOldOne();
         promise13WrongInput();
@@ -85,19 +86,22 @@ public final class WritingTest {
         }
         makeSixty(many);
         due.noState("the piece 60", () -> many.append(many.file(), 1));
-        due.is(1, "version of the last piece", () -> many.piece(59, 0) - 1);
+        due.is(2, "version of the last piece", () -> many.piece(59, 0));
+        int shared = many.snapshot(11);
+        due.noState("put to a shared piece when there are 60", () -> many.put(shared, 4, 0, 1));
+        due.is(59, "the piece stays", () -> many.pieceAt(shared, 4));
         due.noIndex("piece(60, 0)", () -> many.piece(60, 0));
     }
 
-    /** Every piece has one copy, so that all of them find room: one node is up at a time. */
+    /** Every piece has one copy, so that all find room, and two places stay free: one node is up at a time. */
     private static void makeSixty(BlockFleet x) {
         int number = 0;
         for (int i = 0; i < 60; i++) {
-            if (i > 0 && i % 12 == 0) {
-                x.up(i / 12 - 1, false);
-                x.up(i / 12, true);
+            if (i > 0 && i % 10 == 0) {
+                x.up(i / 10 - 1, false);
+                x.up(i / 10, true);
             }
-            if (i > 0 && i % 6 == 0) {
+            if (i > 0 && i % 5 == 0) {
                 number = x.file();
             }
             for (int cell = 0; cell < 4; cell++) {
@@ -157,6 +161,19 @@ public final class WritingTest {
         copies(x, 0, 1, 2);
         due.is(3, "version", () -> x.piece(0, 0));
         due.is(1, "the primary is as it was", () -> x.piece(0, 3));
+    }
+
+    private static void promise12ShorterPrimary() {
+        BlockFleet x = fleet(0, 6, 1, 6, 2, 6);
+        x.append(0, 1);
+        x.up(1, false);
+        x.append(0, 2);
+        x.up(1, true);
+        x.put(0, 0, 0, 3);
+        x.up(0, false);
+        due.is(0, "the primary that is down", () -> x.piece(0, 3));
+        due.noState("put behind the cells of the next primary", () -> x.put(0, 0, 1, 4));
+        due.is(1, "append behind these", () -> x.append(0, 4));
     }
 
     private static void promise12NothingBetween() {
@@ -249,6 +266,7 @@ public final class WritingTest {
         due.is(true, "put to a shared piece", () -> x.put(1, 0, 0, 5));
         due.is(1, "its own piece", () -> x.pieceAt(1, 0));
         copies(x, 1, 0, 2);
+        due.is(-1, "nothing of it where no good copy was", () -> x.on(1, 1, 0));
         due.is(2, "its version", () -> x.piece(1, 0));
         due.is(2, "wrong on the first", () -> x.on(0, 1, 2));
         due.is(2, "wrong on the other, like the first", () -> x.on(2, 1, 2));
