@@ -55,6 +55,24 @@ final class Due {
         }
     }
 
+    /** A fleet with such nodes, a rack and a room each, and one file. */
+    static BlockFleet fleet(int... racksAndRooms) {
+        BlockFleet x = new BlockFleet();
+        for (int i = 0; i + 1 < racksAndRooms.length; i += 2) {
+            x.node(racksAndRooms[i], racksAndRooms[i + 1]);
+        }
+        x.file();
+        return x;
+    }
+
+    void copies(BlockFleet x, int piece, int... nodes) {
+        is(nodes.length, "copies of " + piece, () -> x.piece(piece, 1));
+        for (int i = 0; i < nodes.length; i++) {
+            int place = i;
+            is(nodes[i], "copyAt(" + piece + ", " + place + ")", () -> x.copyAt(piece, place));
+        }
+    }
+
     void end() {
         System.out.println(asked + " answers, " + wrong + " of them wrong");
         if (wrong != 0) {

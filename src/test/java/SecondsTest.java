@@ -21,23 +21,6 @@ public final class SecondsTest {
         due.end();
     }
 
-    private static BlockFleet fleet(int... racksAndRooms) {
-        BlockFleet x = new BlockFleet();
-        for (int i = 0; i + 1 < racksAndRooms.length; i += 2) {
-            x.node(racksAndRooms[i], racksAndRooms[i + 1]);
-        }
-        x.file();
-        return x;
-    }
-
-    private static void copies(BlockFleet x, int piece, int... nodes) {
-        due.is(nodes.length, "copies of " + piece, () -> x.piece(piece, 1));
-        for (int i = 0; i < nodes.length; i++) {
-            int place = i;
-            due.is(nodes[i], "copyAt(" + piece + ", " + place + ")", () -> x.copyAt(piece, place));
-        }
-    }
-
     private static void fill(BlockFleet x, int file, int numbers) {
         for (int i = 0; i < numbers; i++) {
             x.append(file, i);
@@ -45,20 +28,20 @@ public final class SecondsTest {
     }
 
     private static void uncountedNodesEndLeases() {
-        BlockFleet x = fleet(0, 6, 1, 6, 2, 6);
+        BlockFleet x = Due.fleet(0, 6, 1, 6, 2, 6);
         x.append(0, 1);
         x.up(2, false);
         x.pass(2);
         due.is(0, "the primary after 2 seconds", () -> x.piece(0, 3));
-        copies(x, 0, 0, 1, 2);
+        due.copies(x, 0, 0, 1, 2);
         x.pass(1);
         due.is(-1, "the primary after 3 seconds, another one being down", () -> x.piece(0, 3));
-        copies(x, 0, 0, 1);
+        due.copies(x, 0, 0, 1);
         due.is(2, "version there", () -> x.on(2, 0, 0));
     }
 
     private static void staleCopiesAreDropped() {
-        BlockFleet x = fleet(0, 6, 1, 6, 2, 6, 3, 6);
+        BlockFleet x = Due.fleet(0, 6, 1, 6, 2, 6, 3, 6);
         x.limit(0);
         x.append(0, 1);
         x.up(0, false);
@@ -68,75 +51,75 @@ public final class SecondsTest {
         due.is(2, "good ones", () -> x.piece(0, 2));
         x.pass(1);
         due.is(-1, "version on it after a second", () -> x.on(0, 0, 0));
-        copies(x, 0, 1, 2);
+        due.copies(x, 0, 1, 2);
     }
 
     private static void copiesComeBack() {
-        BlockFleet x = fleet(0, 6, 1, 6, 2, 6, 3, 6);
+        BlockFleet x = Due.fleet(0, 6, 1, 6, 2, 6, 3, 6);
         x.limit(0);
         x.append(0, 1);
         x.up(0, false);
         x.pass(3);
-        copies(x, 0, 1, 2);
+        due.copies(x, 0, 1, 2);
         x.up(0, true);
-        copies(x, 0, 1, 2);
+        due.copies(x, 0, 1, 2);
         x.pass(1);
-        copies(x, 0, 1, 2, 0);
+        due.copies(x, 0, 1, 2, 0);
         x.up(1, false);
         x.limit(1);
         x.pass(3);
-        copies(x, 0, 2, 0, 3);
+        due.copies(x, 0, 2, 0, 3);
         x.up(1, true);
         x.pass(1);
-        copies(x, 0, 2, 0, 3);
+        due.copies(x, 0, 2, 0, 3);
         due.is(-1, "one too many is dropped", () -> x.on(1, 0, 0));
     }
 
     private static void copiesComeBackOneBehindTheOther() {
-        BlockFleet x = fleet(0, 6, 1, 6, 2, 6, 3, 6);
+        BlockFleet x = Due.fleet(0, 6, 1, 6, 2, 6, 3, 6);
         x.append(0, 1);
         x.up(0, false);
         x.up(2, false);
         x.pass(3);
-        copies(x, 0, 1, 3);
+        due.copies(x, 0, 1, 3);
         x.up(2, true);
         x.up(0, true);
         x.pass(1);
-        copies(x, 0, 1, 3, 0);
+        due.copies(x, 0, 1, 3, 0);
         due.is(-1, "the later one is one too many", () -> x.on(2, 0, 0));
     }
 
     private static void goneFilesAreDroppedLate() {
-        BlockFleet x = fleet(0, 6, 1, 6, 2, 6);
+        BlockFleet x = Due.fleet(0, 6, 1, 6, 2, 6);
         x.append(0, 1);
         x.remove(0);
         x.up(2, false);
         x.pass(20);
-        copies(x, 0, 0, 1);
+        due.copies(x, 0, 0, 1);
         due.is(1, "load in the second in which it goes", () -> x.load(0));
         due.is(0, "walk(1)", () -> x.walk(1));
         x.pass(1);
-        copies(x, 0);
+        due.copies(x, 0);
         due.is(0, "load later", () -> x.load(0));
         due.is(1, "load of one that is down", () -> x.load(2));
         x.up(2, true);
         x.pass(1);
         due.is(0, "load of one that was down", () -> x.load(2));
         due.is(2, "version of a gone piece", () -> x.piece(0, 0));
-        BlockFleet y = fleet(0, 6, 1, 6, 2, 6, 3, 6);
+        BlockFleet y = Due.fleet(0, 6, 1, 6, 2, 6, 3, 6);
         y.append(0, 1);
         y.remove(0);
         y.pass(18);
         y.up(0, false);
         y.pass(2);
-        copies(y, 0, 0, 1, 2);
+        due.copies(y, 0, 0, 1, 2);
         y.pass(1);
-        copies(y, 0);
+        due.copies(y, 0);
         due.is(0, "a gone piece is not mended", () -> y.load(3));
     }
 
     private static void gonePiecesAreLeftAlone() {
-        BlockFleet x = fleet(0, 6, 1, 6, 2, 6, 3, 6);
+        BlockFleet x = Due.fleet(0, 6, 1, 6, 2, 6, 3, 6);
         x.limit(0);
         x.append(0, 1);
         x.spoil(2, 0, 0);
@@ -145,8 +128,8 @@ public final class SecondsTest {
         x.pass(19);
         x.limit(3);
         x.pass(1);
-        copies(x, 0, 0, 1);
-        BlockFleet y = fleet(0, 6, 1, 6, 2, 6);
+        due.copies(x, 0, 0, 1);
+        BlockFleet y = Due.fleet(0, 6, 1, 6, 2, 6);
         fill(y, 0, 8);
         y.node(3, 6);
         y.remove(0);
@@ -157,7 +140,7 @@ public final class SecondsTest {
     }
 
     private static void scrubbing() {
-        BlockFleet x = fleet(0, 12, 1, 12, 2, 12);
+        BlockFleet x = Due.fleet(0, 12, 1, 12, 2, 12);
         x.limit(0);
         fill(x, 0, 12);
         x.spoil(0, 1, 0);
@@ -183,7 +166,7 @@ public final class SecondsTest {
     }
 
     private static void mendingByNeed() {
-        BlockFleet x = fleet(0, 12, 1, 12, 2, 12);
+        BlockFleet x = Due.fleet(0, 12, 1, 12, 2, 12);
         fill(x, 0, 12);
         x.limit(0);
         x.spoil(0, 0, 0);
@@ -194,18 +177,18 @@ public final class SecondsTest {
         x.read(0, 2, 0, 1);
         x.limit(1);
         x.pass(1);
-        copies(x, 2, 2, 0);
-        copies(x, 0, 1, 2);
+        due.copies(x, 2, 2, 0);
+        due.copies(x, 0, 1, 2);
         x.pass(1);
-        copies(x, 0, 1, 2, 0);
+        due.copies(x, 0, 1, 2, 0);
         x.pass(1);
-        copies(x, 2, 2, 0, 1);
+        due.copies(x, 2, 2, 0, 1);
         due.is(2, "the mended version", () -> x.on(0, 2, 0));
         due.is(3, "the mended cell", () -> x.cellOn(0, 2, 3) - 8);
     }
 
     private static void mendingUnderTheLimit() {
-        BlockFleet x = fleet(0, 12, 1, 12, 2, 12);
+        BlockFleet x = Due.fleet(0, 12, 1, 12, 2, 12);
         fill(x, 0, 8);
         for (int piece = 0; piece < 2; piece++) {
             x.spoil(0, piece, 0);
@@ -215,14 +198,14 @@ public final class SecondsTest {
         x.read(0, 1, 0, 1);
         x.limit(3);
         x.pass(1);
-        copies(x, 0, 1, 2, 0);
-        copies(x, 1, 2, 0);
+        due.copies(x, 0, 1, 2, 0);
+        due.copies(x, 1, 2, 0);
         x.pass(1);
-        copies(x, 1, 2, 0, 1);
+        due.copies(x, 1, 2, 0, 1);
     }
 
     private static void mendingFromASoundCopy() {
-        BlockFleet x = fleet(0, 12, 1, 12, 2, 12, 3, 12);
+        BlockFleet x = Due.fleet(0, 12, 1, 12, 2, 12, 3, 12);
         fill(x, 0, 8);
         x.limit(0);
         x.pass(1);
@@ -231,45 +214,45 @@ public final class SecondsTest {
         x.spoil(0, 0, 1);
         x.limit(1);
         x.pass(1);
-        copies(x, 0, 0, 1, 2);
+        due.copies(x, 0, 0, 1, 2);
         due.is(0, "wrong cells of the mended copy", () -> x.on(2, 0, 2));
         x.limit(0);
         x.pass(1);
-        copies(x, 0, 1, 2);
+        due.copies(x, 0, 1, 2);
         x.up(1, false);
         x.up(2, false);
         x.limit(3);
         x.pass(1);
-        copies(x, 0, 1, 2);
+        due.copies(x, 0, 1, 2);
         due.is(1, "lost", () -> x.walk(0));
     }
 
     private static void mendingPlaces() {
-        BlockFleet x = fleet(0, 12, 1, 12, 2, 12, 1, 12, 3, 1);
+        BlockFleet x = Due.fleet(0, 12, 1, 12, 2, 12, 1, 12, 3, 1);
         x.append(0, 1);
         x.file();
         fill(x, 1, 1);
-        copies(x, 0, 0, 1, 2);
-        copies(x, 1, 3, 4, 0);
+        due.copies(x, 0, 0, 1, 2);
+        due.copies(x, 1, 3, 4, 0);
         x.up(2, false);
         x.pass(3);
         due.is(true, "the full node gets none: the rack 1 has one, the rack 0, too", () -> x.copyAt(0, 2) == 3);
-        copies(x, 0, 0, 1, 3);
+        due.copies(x, 0, 0, 1, 3);
     }
 
     private static void placesBeforeASecondIsSeen() {
-        BlockFleet x = fleet(0, 6, 1, 6);
+        BlockFleet x = Due.fleet(0, 6, 1, 6);
         x.up(0, false);
         x.pass(3);
         x.up(0, true);
         x.append(0, 1);
-        copies(x, 0, 1);
+        due.copies(x, 0, 1);
         x.pass(1);
-        copies(x, 0, 1, 0);
+        due.copies(x, 0, 1, 0);
     }
 
     private static void balancingTakesTheLowestThatCanMove() {
-        BlockFleet x = fleet(0, 6, 1, 6, 2, 6);
+        BlockFleet x = Due.fleet(0, 6, 1, 6, 2, 6);
         x.limit(0);
         x.balance(true);
         x.append(0, 1);
@@ -282,13 +265,13 @@ public final class SecondsTest {
         x.append(x.file(), 3);
         x.up(2, true);
         x.pass(1);
-        copies(x, 0, 0, 1, 2);
-        copies(x, 1, 2, 1);
-        copies(x, 2, 0, 1);
+        due.copies(x, 0, 0, 1, 2);
+        due.copies(x, 1, 2, 1);
+        due.copies(x, 2, 0, 1);
     }
 
     private static void balancing() {
-        BlockFleet x = fleet(0, 12, 1, 12, 2, 12);
+        BlockFleet x = Due.fleet(0, 12, 1, 12, 2, 12);
         fill(x, 0, 12);
         x.node(3, 12);
         x.node(3, 12);
@@ -298,13 +281,13 @@ public final class SecondsTest {
         x.spoil(0, 0, 3);
         x.pass(1);
         due.is(1, "a move", () -> x.load(3));
-        copies(x, 0, 0, 1, 2);
-        copies(x, 1, 3, 1, 2);
+        due.copies(x, 0, 0, 1, 2);
+        due.copies(x, 1, 3, 1, 2);
         due.is(-1, "the lease of the one that moved its primary", () -> x.piece(1, 3));
         due.is(7, "its last cell", () -> x.cellOn(3, 1, 3));
         due.is(2, "its version", () -> x.on(3, 1, 0));
         x.pass(1);
-        copies(x, 0, 0, 4, 2);
+        due.copies(x, 0, 0, 4, 2);
         due.is(0, "the lease of the one that moved another", () -> x.piece(0, 3));
         x.pass(1);
         due.is(2, "load(2) after the last move", () -> x.load(2));
@@ -313,7 +296,7 @@ public final class SecondsTest {
     }
 
     private static void balancingNeedsRoom() {
-        BlockFleet x = fleet(0, 12, 1, 12, 2, 12);
+        BlockFleet x = Due.fleet(0, 12, 1, 12, 2, 12);
         fill(x, 0, 4);
         x.node(3, 1);
         fill(x, 0, 4);
@@ -322,7 +305,7 @@ public final class SecondsTest {
         fill(x, 0, 8);
         x.pass(1);
         due.is(1, "load(3), which is full", () -> x.load(3));
-        BlockFleet y = fleet(0, 12, 1, 12, 2, 12);
+        BlockFleet y = Due.fleet(0, 12, 1, 12, 2, 12);
         fill(y, 0, 8);
         y.node(3, 12);
         y.up(3, false);

@@ -20,59 +20,42 @@ public final class WritingTest {
         due.end();
     }
 
-    private static BlockFleet fleet(int... racksAndRooms) {
-        BlockFleet x = new BlockFleet();
-        for (int i = 0; i + 1 < racksAndRooms.length; i += 2) {
-            x.node(racksAndRooms[i], racksAndRooms[i + 1]);
-        }
-        x.file();
-        return x;
-    }
-
-    private static void copies(BlockFleet x, int piece, int... nodes) {
-        due.is(nodes.length, "copies of " + piece, () -> x.piece(piece, 1));
-        for (int i = 0; i < nodes.length; i++) {
-            int place = i;
-            due.is(nodes[i], "copyAt(" + piece + ", " + place + ")", () -> x.copyAt(piece, place));
-        }
-    }
-
     private static void promise12WrongInput() {
-        BlockFleet x = fleet(0, 6);
+        BlockFleet x = Due.fleet(0, 6);
         due.noIndex("append(-1, 0)", () -> x.append(-1, 0));
         due.noIndex("append(1, 1000)", () -> x.append(1, 1000));
         due.noArgument("append(0, -1)", () -> x.append(0, -1));
         due.noArgument("append(0, 1000)", () -> x.append(0, 1000));
         due.is(0, "append(0, 0)", () -> x.append(0, 0));
         due.is(1, "append(0, 999)", () -> x.append(0, 999));
-        copies(x, 0, 0);
+        due.copies(x, 0, 0);
     }
 
     private static void promise12BestPlaces() {
-        BlockFleet x = fleet(0, 6, 0, 6, 1, 6, 1, 1);
+        BlockFleet x = Due.fleet(0, 6, 0, 6, 1, 6, 1, 1);
         x.append(0, 1);
-        copies(x, 0, 0, 2, 1);
+        due.copies(x, 0, 0, 2, 1);
         x.file();
         x.append(1, 1);
-        copies(x, 1, 3, 0, 1);
+        due.copies(x, 1, 3, 0, 1);
         x.file();
         x.append(2, 1);
-        copies(x, 2, 2, 0, 1);
+        due.copies(x, 2, 2, 0, 1);
         due.is(1, "load(3), which is full", () -> x.load(3));
         due.is(2, "version after the first lease", () -> x.piece(2, 0));
     }
 
     private static void promise12Bounds() {
-        BlockFleet x = fleet(0, 12, 1, 12, 2, 12);
+        BlockFleet x = Due.fleet(0, 12, 1, 12, 2, 12);
         for (int i = 0; i < 24; i++) {
             int want = 10 * (i / 4) + i % 4;
             due.is(want, "append", () -> x.append(0, 1));
         }
         due.noState("append to six full pieces", () -> x.append(0, 1));
         due.is(6, "pieces", () -> x.pieces(0));
-        BlockFleet without = fleet();
+        BlockFleet without = Due.fleet();
         due.noState("append without nodes", () -> without.append(0, 1));
-        BlockFleet full = fleet(0, 1);
+        BlockFleet full = Due.fleet(0, 1);
         for (int i = 0; i < 4; i++) {
             full.append(0, 1);
         }
@@ -80,7 +63,7 @@ public final class WritingTest {
         due.is(1, "pieces then", () -> full.pieces(0));
         full.up(0, false);
         due.noState("append without a copy that is up", () -> full.append(0, 1));
-        BlockFleet many = fleet(0, 12, 0, 12, 0, 12, 0, 12, 0, 12, 0, 12, 0, 12, 0, 12);
+        BlockFleet many = Due.fleet(0, 12, 0, 12, 0, 12, 0, 12, 0, 12, 0, 12, 0, 12, 0, 12);
         for (int node = 1; node < 8; node++) {
             many.up(node, false);
         }
@@ -111,7 +94,7 @@ public final class WritingTest {
     }
 
     private static void promise12FailedCopy() {
-        BlockFleet x = fleet(0, 6, 1, 6, 2, 6);
+        BlockFleet x = Due.fleet(0, 6, 1, 6, 2, 6);
         x.append(0, 1);
         x.up(1, false);
         due.is(-1, "append with a copy down", () -> x.append(0, 2));
@@ -120,16 +103,16 @@ public final class WritingTest {
         due.is(1, "not on the one that was down", () -> x.on(1, 0, 1));
         due.is(-1, "the primary", () -> x.piece(0, 3));
         due.is(-1, "the lease's end", () -> x.piece(0, 4));
-        copies(x, 0, 0, 1, 2);
+        due.copies(x, 0, 0, 1, 2);
         due.is(2, "append again, doubled", () -> x.append(0, 2));
-        copies(x, 0, 0, 2);
+        due.copies(x, 0, 0, 2);
         due.is(3, "version", () -> x.piece(0, 0));
         due.is(2, "version on the one that is down", () -> x.on(1, 0, 0));
         due.is(1, "its load", () -> x.load(1));
     }
 
     private static void promise12Lease() {
-        BlockFleet x = fleet(0, 6, 1, 6, 2, 6);
+        BlockFleet x = Due.fleet(0, 6, 1, 6, 2, 6);
         x.pass(4);
         x.append(0, 1);
         due.is(0, "the primary", () -> x.piece(0, 3));
@@ -148,23 +131,23 @@ public final class WritingTest {
     }
 
     private static void promise12PrimaryDown() {
-        BlockFleet x = fleet(0, 6, 1, 6, 2, 6);
+        BlockFleet x = Due.fleet(0, 6, 1, 6, 2, 6);
         x.append(0, 1);
         x.up(0, false);
         due.is(0, "the primary is down, the lease not over", () -> x.piece(0, 3));
         due.is(1, "append", () -> x.append(0, 2));
         due.is(1, "the next primary", () -> x.piece(0, 3));
-        copies(x, 0, 1, 2);
+        due.copies(x, 0, 1, 2);
         x.up(1, false);
         x.up(2, false);
         due.noState("append with all down", () -> x.append(0, 3));
-        copies(x, 0, 1, 2);
+        due.copies(x, 0, 1, 2);
         due.is(3, "version", () -> x.piece(0, 0));
         due.is(1, "the primary is as it was", () -> x.piece(0, 3));
     }
 
     private static void promise12ShorterPrimary() {
-        BlockFleet x = fleet(0, 6, 1, 6, 2, 6);
+        BlockFleet x = Due.fleet(0, 6, 1, 6, 2, 6);
         x.append(0, 1);
         x.up(1, false);
         x.append(0, 2);
@@ -177,7 +160,7 @@ public final class WritingTest {
     }
 
     private static void promise12NothingBetween() {
-        BlockFleet x = fleet(0, 6, 1, 6, 2, 6);
+        BlockFleet x = Due.fleet(0, 6, 1, 6, 2, 6);
         x.append(0, 1);
         x.up(2, false);
         x.append(0, 2);
@@ -190,7 +173,7 @@ public final class WritingTest {
         due.is(false, "spoil the cell between", () -> x.spoil(2, 0, 1));
         due.is(true, "put into it", () -> x.put(0, 0, 1, 7));
         due.is(7, "the cell then", () -> x.read(0, 0, 1, 2));
-        BlockFleet y = fleet(0, 6, 1, 6, 2, 6);
+        BlockFleet y = Due.fleet(0, 6, 1, 6, 2, 6);
         y.append(0, 1);
         y.up(1, false);
         y.append(0, 2);
@@ -202,7 +185,7 @@ public final class WritingTest {
     }
 
     private static void promise12NewPieceLeavesTheOldOne() {
-        BlockFleet x = fleet(0, 6, 1, 6, 2, 6);
+        BlockFleet x = Due.fleet(0, 6, 1, 6, 2, 6);
         for (int i = 0; i < 4; i++) {
             x.append(0, i);
         }
@@ -213,13 +196,13 @@ public final class WritingTest {
         due.is(0, "the old piece stays", () -> x.pieceAt(0, 0));
         due.is(2, "its version", () -> x.piece(0, 0));
         due.is(-1, "its primary", () -> x.piece(0, 3));
-        copies(x, 0, 0, 1, 2);
-        copies(x, 1, 1, 2);
+        due.copies(x, 0, 0, 1, 2);
+        due.copies(x, 1, 1, 2);
         due.is(1, "files of the new one", () -> x.piece(1, 5));
     }
 
     private static void promise13WrongInput() {
-        BlockFleet x = fleet(0, 6);
+        BlockFleet x = Due.fleet(0, 6);
         x.append(0, 1);
         due.noIndex("put(-1, 0, 0, 0)", () -> x.put(-1, 0, 0, 0));
         due.noIndex("put(1, 0, 0, 0)", () -> x.put(1, 0, 0, 0));
@@ -238,7 +221,7 @@ public final class WritingTest {
     }
 
     private static void promise13Put() {
-        BlockFleet x = fleet(0, 6, 1, 6, 2, 6);
+        BlockFleet x = Due.fleet(0, 6, 1, 6, 2, 6);
         x.append(0, 1);
         x.append(0, 2);
         due.is(true, "put", () -> x.put(0, 0, 0, 9));
@@ -253,11 +236,11 @@ public final class WritingTest {
         due.is(9, "what was not", () -> x.cellOn(2, 0, 0));
         due.is(-1, "the lease", () -> x.piece(0, 4));
         due.is(true, "put again", () -> x.put(0, 0, 0, 7));
-        copies(x, 0, 0, 1);
+        due.copies(x, 0, 0, 1);
     }
 
     private static void promise13Parts() {
-        BlockFleet x = fleet(0, 6, 1, 6, 2, 6);
+        BlockFleet x = Due.fleet(0, 6, 1, 6, 2, 6);
         x.append(0, 1);
         x.append(0, 2);
         x.snapshot(0);
@@ -265,7 +248,7 @@ public final class WritingTest {
         x.up(1, false);
         due.is(true, "put to a shared piece", () -> x.put(1, 0, 0, 5));
         due.is(1, "its own piece", () -> x.pieceAt(1, 0));
-        copies(x, 1, 0, 2);
+        due.copies(x, 1, 0, 2);
         due.is(-1, "nothing of it where no good copy was", () -> x.on(1, 1, 0));
         due.is(2, "its version", () -> x.piece(1, 0));
         due.is(2, "wrong on the first", () -> x.on(0, 1, 2));
@@ -274,7 +257,7 @@ public final class WritingTest {
         due.is(1, "the old piece", () -> x.cellOn(0, 0, 0));
         due.is(0, "the old piece's primary", () -> x.piece(0, 3));
         due.is(1, "its files", () -> x.piece(0, 5));
-        copies(x, 0, 0, 1, 2);
+        due.copies(x, 0, 0, 1, 2);
         due.is(false, "put to the old one, which is not shared", () -> x.put(0, 0, 0, 6));
         due.is(0, "it stays", () -> x.pieceAt(0, 0));
         x.snapshot(1);
@@ -289,12 +272,12 @@ public final class WritingTest {
     }
 
     private static void promise13PartsWhereThereIsRoom() {
-        BlockFleet x = fleet(0, 1, 1, 1, 2, 2);
+        BlockFleet x = Due.fleet(0, 1, 1, 1, 2, 2);
         x.append(0, 1);
         x.snapshot(0);
         x.spoil(0, 0, 0);
         due.is(1, "append to a shared piece", () -> x.append(1, 2));
-        copies(x, 1, 2);
+        due.copies(x, 1, 2);
         due.is(1, "wrong, like the first one, which had no room", () -> x.on(2, 1, 2));
         due.noState("the piece has parted, so both can be written: the primary has one cell", () -> x.put(0, 0, 1, 5));
         x.snapshot(1);
@@ -305,7 +288,7 @@ public final class WritingTest {
     }
 
     private static void promise13ChangesNothingWhenItThrows() {
-        BlockFleet x = fleet(0, 6, 1, 6, 2, 6);
+        BlockFleet x = Due.fleet(0, 6, 1, 6, 2, 6);
         x.append(0, 1);
         x.snapshot(0);
         x.pass(10);
@@ -317,12 +300,12 @@ public final class WritingTest {
         x.pass(2);
         due.noState("put behind the primary's cells, shared with a deleted one", () -> x.put(1, 0, 3, 5));
         due.is(2, "version", () -> x.piece(0, 0));
-        copies(x, 0, 0, 1, 2);
+        due.copies(x, 0, 0, 1, 2);
         x.up(1, false);
         x.up(2, false);
         due.noState("put to a shared piece without a good copy", () -> x.put(1, 0, 0, 5));
         due.noState("append to a shared piece without a good copy", () -> x.append(1, 5));
         due.is(2, "its files", () -> x.piece(0, 5));
-        copies(x, 0, 0, 1, 2);
+        due.copies(x, 0, 0, 1, 2);
     }
 }
