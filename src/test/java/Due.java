@@ -8,17 +8,37 @@ final class Due {
         void happen();
     }
 
+    /** Makes the same fleet, time after time. */
+    interface Maker {
+        BlockFleet make();
+    }
+
+    interface DeedWith {
+        void happen(BlockFleet x);
+    }
+
     private int asked = 0;
     private int wrong = 0;
 
     void is(Object want, String told, Call call) {
-        Object got;
+        compare(want, told, answer(call));
+    }
+
+    /** What the call answers, or what it throws. */
+    static Object answer(Call call) {
         try {
-            got = call.answer();
+            return call.answer();
         } catch (RuntimeException e) {
-            got = e.getClass().getSimpleName();
+            String name = e.getClass().getSimpleName();
+            return isThrownByTheLibrary(e) ? name + " of the library" : name;
         }
-        compare(want, told, got);
+    }
+
+    /** The program looks at an index before it is used, so no exception may come from within a list. */
+    private static boolean isThrownByTheLibrary(RuntimeException e) {
+        StackTraceElement[] calls = e.getStackTrace();
+        String thrower = calls.length == 0 ? "" : calls[0].getClassName();
+        return thrower.startsWith("java.") || thrower.startsWith("jdk.");
     }
 
     void happens(String told, Deed deed) {
@@ -38,6 +58,25 @@ final class Due {
 
     void noState(String told, Deed deed) {
         fails("IllegalStateException", told, deed);
+    }
+
+    void refusedIndex(String told, Maker maker, DeedWith deed, int... pieces) {
+        refused("IndexOutOfBoundsException", told, maker, deed, pieces);
+    }
+
+    void refusedArgument(String told, Maker maker, DeedWith deed, int... pieces) {
+        refused("IllegalArgumentException", told, maker, deed, pieces);
+    }
+
+    void refusedState(String told, Maker maker, DeedWith deed, int... pieces) {
+        refused("IllegalStateException", told, maker, deed, pieces);
+    }
+
+    /** A call that throws changes nothing: the fleet is then as one on which the call was not made. */
+    private void refused(String name, String told, Maker maker, DeedWith deed, int... pieces) {
+        BlockFleet called = maker.make();
+        fails(name, told, () -> deed.happen(called));
+        is(Seen.all(maker.make(), pieces), told + ", and then all there is", () -> Seen.all(called, pieces));
     }
 
     private void fails(String name, String told, Deed deed) {

@@ -3,9 +3,14 @@ import java.util.List;
 
 /** Long runs of calls, written by a row of numbers that is always the same, compared with Model. */
 public final class ModelTest {
-    private static final int RUNS = 6000;
+    private static final int RUNS = 7000;
     private static final int CALLS = 512;
+    private static final int STYLES = 7;
     private static final int CALM = 4;
+    /** Runs that come to the last second. */
+    private static final int LONG = 5;
+    /** Runs in which many pieces part. */
+    private static final int PARTING = 6;
 
     private long row;
     private final BlockFleet fleet = new BlockFleet();
@@ -30,17 +35,9 @@ public final class ModelTest {
         return any(bound);
     }
 
-    private static Object answer(Due.Call call) {
-        try {
-            return call.answer();
-        } catch (RuntimeException e) {
-            return e.getClass().getSimpleName();
-        }
-    }
-
     private void same(String call, Due.Call ofFleet, Due.Call ofModel) {
-        Object got = answer(ofFleet);
-        Object want = answer(ofModel);
+        Object got = Due.answer(ofFleet);
+        Object want = Due.answer(ofModel);
         told.add(call + " -> " + got);
         if (!want.equals(got) && !isWrong) {
             isWrong = true;
@@ -57,6 +54,15 @@ public final class ModelTest {
         return mostly(model.w.files.size());
     }
 
+    /** Mostly one that is there, if there is one. */
+    private int fileThatIsThere() {
+        int f = file();
+        for (int i = 0; i < 9 && (f < 0 || f >= model.w.files.size() || model.w.files.get(f)[0] != 0); i++) {
+            f = file();
+        }
+        return f;
+    }
+
     private int piece() {
         return mostly(model.w.pieces.size());
     }
@@ -70,7 +76,7 @@ public final class ModelTest {
         int many = style == CALM ? 8 : 1 + any(8);
         for (int i = 0; i < many; i++) {
             int rack = any(style == 0 ? 2 : 4);
-            int room = style == CALM ? 12 : 1 + any(style == 1 ? 4 : 12);
+            int room = style == CALM || style == PARTING ? 12 : 1 + any(style == 1 ? 4 : 12);
             same("node " + rack + " " + room, () -> fleet.node(rack, room), () -> model.node(rack, room));
         }
         for (int i = 0; i < 2; i++) {
@@ -79,31 +85,77 @@ public final class ModelTest {
     }
 
     private void change(int style) {
+        if (style == LONG && any(3) == 0) {
+            pass(any(2) == 0 ? 100 : 1 + any(100));
+            return;
+        }
+        if (style == PARTING && any(8) != 0) {
+            partOften();
+            return;
+        }
         // The calm runs write more, and so make more pieces.
         int kind = style == CALM && any(2) == 0 ? any(42) : any(100);
         if (kind < 30) {
-            int f = file();
-            int number = any(60) == 0 ? (any(2) == 0 ? -1 : 1000) : any(1000);
-            same("append " + f + " " + number, () -> fleet.append(f, number), () -> model.append(f, number));
+            append(file());
         } else if (kind < 42) {
-            int f = file();
-            int p = place(f);
-            int c = any(2) == 0 ? mostly(4) : 0;
-            int number = any(60) == 0 ? (any(2) == 0 ? -1 : 1000) : any(1000);
-            same("put " + f + " " + p + " " + c + " " + number,
-                () -> fleet.put(f, p, c, number), () -> model.put(f, p, c, number));
+            put(file(), any(2) == 0 ? mostly(4) : 0);
         } else if (kind < 58) {
             int n = node();
-            boolean is = any(style == CALM ? 9 : 2 + style % 2) != 0;
+            boolean is = any(style == CALM || style == PARTING ? 9 : 2 + style % 2) != 0;
             same("up " + n + " " + is, () -> fleet.up(n, is), () -> model.up(n, is));
         } else if (kind < 70) {
             spoil();
         } else if (kind < 82) {
-            int seconds = any(30) == 0 ? mostly(101) : 1 + any(style == 3 ? 12 : style == CALM ? 22 : 4);
-            same("pass " + seconds, () -> fleet.pass(seconds), () -> model.pass(seconds));
+            pass(any(30) == 0 ? mostly(101) : 1 + any(style == 3 ? 12 : style == CALM ? 22 : 4));
         } else {
             changeFilesOrSettings(kind - 82);
         }
+    }
+
+    /** The room of the pieces that are gone is free again, so that the next ones can part. */
+    private void partOften() {
+        int kind = any(24);
+        if (kind < 12) {
+            put(fileThatIsThere(), 0);
+        } else if (kind < 18) {
+            append(fileThatIsThere());
+        } else if (kind < 20) {
+            pass(19 + any(4));
+        } else {
+            int f = fileThatIsThere();
+            if (kind < 23) {
+                same("snapshot " + f, () -> fleet.snapshot(f), () -> model.snapshot(f));
+            } else {
+                remove(f);
+            }
+        }
+    }
+
+    private int number() {
+        return any(60) == 0 ? (any(2) == 0 ? -1 : 1000) : any(1000);
+    }
+
+    private void append(int f) {
+        int number = number();
+        same("append " + f + " " + number, () -> fleet.append(f, number), () -> model.append(f, number));
+    }
+
+    private void put(int f, int c) {
+        int p = place(f);
+        int number = number();
+        same("put " + f + " " + p + " " + c + " " + number,
+            () -> fleet.put(f, p, c, number), () -> model.put(f, p, c, number));
+    }
+
+    private void pass(int seconds) {
+        same("pass " + seconds, () -> fleet.pass(seconds), () -> model.pass(seconds));
+    }
+
+    private void remove(int f) {
+        same("remove " + f, () -> {
+            fleet.remove(f);
+            return 0;
+        }, () -> model.remove(f));
     }
 
     private void spoil() {
@@ -121,10 +173,7 @@ public final class ModelTest {
         } else if (kind < 6) {
             same("snapshot " + f, () -> fleet.snapshot(f), () -> model.snapshot(f));
         } else if (kind < 9) {
-            same("remove " + f, () -> {
-                fleet.remove(f);
-                return 0;
-            }, () -> model.remove(f));
+            remove(f);
         } else if (kind < 12) {
             same("restore " + f, () -> {
                 fleet.restore(f);
@@ -183,7 +232,7 @@ public final class ModelTest {
     private boolean run(int style) {
         setUp(style);
         while (told.size() < CALLS && !isWrong) {
-            if (any(100) < 45) {
+            if (any(100) < (style == PARTING ? 80 : 45)) {
                 change(style);
             } else {
                 ask();
@@ -194,7 +243,7 @@ public final class ModelTest {
 
     public static void main(String[] args) {
         for (int i = 0; i < RUNS; i++) {
-            if (!new ModelTest(i).run(i % 5)) {
+            if (!new ModelTest(i).run(i % STYLES)) {
                 System.out.println("run " + i + " is wrong");
                 System.exit(1);
             }

@@ -7,6 +7,7 @@ public final class ReadingTest {
         promise14WhereItReads();
         promise14WrongCells();
         promise14EndsTheLease();
+        promise14TheFirstInTheirOrder();
         due.end();
     }
 
@@ -90,5 +91,31 @@ public final class ReadingTest {
         due.is(-1, "the primary", () -> x.piece(0, 3));
         due.is(2, "append", () -> x.append(0, 5));
         due.is(1, "the next primary", () -> x.piece(0, 3));
+    }
+
+    /** "the first one in the rack, or, without one, the first one": by the order of the copies, not by numbers. */
+    private static void promise14TheFirstInTheirOrder() {
+        for (int rack = 0; rack < 4; rack++) {
+            BlockFleet x = Due.fleet(0, 6, 0, 6, 1, 6);
+            x.limit(0);
+            x.append(0, 1);
+            x.up(0, false);
+            x.pass(3);
+            x.up(0, true);
+            x.pass(1);
+            due.copies(x, 0, 2, 1, 0);
+            int first = rack == 0 ? 1 : 2;
+            x.spoil(first, 0, 0);
+            int reader = rack;
+            due.is(1, "read in the rack " + rack, () -> x.read(0, 0, 0, reader));
+            due.is(-1, "what the first one has then, read in the rack " + rack, () -> x.on(first, 0, 0));
+            BlockFleet y = Due.fleet(0, 6, 0, 6, 1, 6);
+            y.append(0, 1);
+            due.copies(y, 0, 0, 2, 1);
+            y.up(0, false);
+            y.spoil(first, 0, 0);
+            due.is(1, "read in the rack " + rack + " with a node down", () -> y.read(0, 0, 0, reader));
+            due.is(-1, "what the first one that is up has then", () -> y.on(first, 0, 0));
+        }
     }
 }
