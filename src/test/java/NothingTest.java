@@ -1,4 +1,4 @@
-/** What holds, and what is returned, where there is no node, place, copy, good copy or primary, and nothing in a cell. */
+/** What holds where there is no node, place, copy, good copy or primary: NONE, LOST, 0, and nothing that happens. */
 public final class NothingTest {
     private static final Due due = new Due();
 

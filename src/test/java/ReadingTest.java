@@ -8,6 +8,7 @@ public final class ReadingTest {
         promise14WrongCells();
         promise14EndsTheLease();
         promise14TheFirstInTheirOrder();
+        promise14AnotherOneAndSoOn();
         due.end();
     }
 
@@ -117,5 +118,25 @@ public final class ReadingTest {
             due.is(1, "read in the rack " + rack + " with a node down", () -> y.read(0, 0, 0, reader));
             due.is(-1, "what the first one that is up has then", () -> y.on(first, 0, 0));
         }
+    }
+
+    private static void promise14AnotherOneAndSoOn() {
+        BlockFleet x = fleet();
+        x.spoil(1, 0, 1);
+        x.spoil(0, 0, 1);
+        due.is(2, "read with two of three wrong", () -> x.read(0, 0, 1, 1));
+        due.copies(x, 0, 2);
+        due.is(0, "load of the first that was wrong", () -> x.load(1));
+        due.is(0, "load of the second that was wrong", () -> x.load(0));
+        BlockFleet y = Due.fleet(0, 6, 0, 6, 1, 6);
+        y.append(0, 1);
+        due.copies(y, 0, 0, 2, 1);
+        y.spoil(0, 0, 0);
+        y.spoil(2, 0, 0);
+        due.is(1, "read in a rack with another one, which is not wrong", () -> y.read(0, 0, 0, 0));
+        due.copies(y, 0, 2, 1);
+        due.is(1, "wrong still on the one in the other rack", () -> y.on(2, 0, 2));
+        due.is(1, "read in that rack", () -> y.read(0, 0, 0, 1));
+        due.copies(y, 0, 1);
     }
 }
